@@ -396,7 +396,9 @@ public final class ContourSheets {
             }
             lengths[i] = length;
             offsets[i] = offset;
-            Arrays.fill(units, COLUMNS * i, COLUMNS * (i + 1), GAP);
+            for (int j = 0; j < COLUMNS; j++) {
+                units[COLUMNS * i + j] = GAP;
+            }
         }
 
         /** Rows and spacing of another grid, without its points. */
@@ -1013,9 +1015,6 @@ public final class ContourSheets {
 
     /** The straight line from an eye to the ground of another point. */
     private static final class Sight {
-        private Sight() {
-        }
-
         /**
          * Whether the ground hides the point at one of the rows (or columns) strictly between. All is
          * taken times the number of steps from end to end, so that nothing is rounded.
