@@ -675,6 +675,9 @@ public final class ContourSheets {
     private static final class Joins {
         private final int[] next;
         private final int[] before;
+        /** No side before the least or behind the last leads on: most grids are small within their room. */
+        int least;
+        int last;
 
         Joins() {
             next = new int[SIDES];
@@ -684,6 +687,8 @@ public final class ContourSheets {
         void join(Grid grid, int level) {
             Arrays.fill(next, NONE);
             Arrays.fill(before, NONE);
+            least = SIDES;
+            last = NONE;
             for (int n = 0; n < POINTS; n++) {
                 if (grid.isWhole(n)) {
                     joinCell(grid, n, level);
@@ -747,6 +752,8 @@ public final class ContourSheets {
             if (from >= 0 && from < SIDES && to >= 0 && to < SIDES) {
                 next[from] = to;
                 before[to] = from;
+                least = Math.min(least, from);
+                last = Math.max(last, from);
             }
         }
 
@@ -812,12 +819,12 @@ public final class ContourSheets {
 
         private void drawLevel(int v) {
             joins.join(ground, heights[v]);
-            for (int side = 0; side < SIDES && !full; side++) {
+            for (int side = joins.least; side <= joins.last && !full; side++) {
                 if (joins.beginsAt(side)) {
                     drawLine(side, v);
                 }
             }
-            for (int side = 0; side < SIDES && !full; side++) {
+            for (int side = joins.least; side <= joins.last && !full; side++) {
                 if (joins.leadsOn(side)) {
                     drawLine(side, v);
                 }

@@ -42,10 +42,8 @@ final class Model {
 
         List<Integer> near(int n) {
             List<Integer> all = new ArrayList<>();
-            for (int m : points()) {
-                int di = Math.abs(m / C - n / C);
-                int dj = Math.abs(m % C - n % C);
-                if (m != n && di <= 1 && dj <= 1) all.add(m);
+            for (int i = n / C - 1; i <= n / C + 1; i++) {
+                for (int j = n % C - 1; j <= n % C + 1; j++) if (there(i, j) && C * i + j != n) all.add(C * i + j);
             }
             return all;
         }

@@ -1,4 +1,5 @@
 import java.util.Random;
+import java.util.TreeSet;
 
 /**
  * Runs of calls, made up by fixed seeds, on the class and on the model: every answer must be the same.
@@ -15,7 +16,8 @@ public final class ModelTest {
 
     private ModelTest(String name, long seed) {
         this.name = name;
-        dice = new Random(seed);
+        // Seeds that follow one another begin alike: they are spread first.
+        dice = new Random(seed * 0x9E3779B97F4A7C15L);
     }
 
     private void same(String call, long got, long want) {
@@ -106,18 +108,45 @@ public final class ModelTest {
         }
     }
 
+    /** Hills and hollows that reach over several points, so that lines lie one around the other. */
+    private void hills(int g, int i0, int j0, int rows, int columns) {
+        int[][] tops = new int[2 + dice.nextInt(6)][];
+        for (int k = 0; k < tops.length; k++) {
+            tops[k] = new int[] {i0 + upTo(rows - 1), j0 + upTo(columns - 1), dice.nextInt(17) - 8, 1 + dice.nextInt(3)};
+        }
+        for (int i = i0; i < i0 + rows; i++) {
+            row(g, i, columns, j0);
+            for (int j = j0; j < j0 + columns; j++) {
+                int h = 0;
+                for (int[] t : tops) {
+                    int far = t[3] * Math.max(Math.abs(i - t[0]), Math.abs(j - t[1]));
+                    if (Math.abs(t[2]) > far) h += t[2] > 0 ? t[2] - far : t[2] + far;
+                }
+                if (dice.nextInt(60) > 0) height(g, i, j, Float.floatToRawIntBits(h + dice.nextInt(2) * dice.nextInt(3) / 2f));
+            }
+        }
+    }
+
+    private void spreadLevels(int low, int high) {
+        TreeSet<Integer> chosen = new TreeSet<>();
+        int many = 1 + dice.nextInt(16);
+        for (int v = 0; v < many; v++) chosen.add(low + dice.nextInt(high - low + 1));
+        for (int mm : chosen) level(mm);
+        level(low);
+    }
+
     private void fieldRun() {
-        int rows = 2 + dice.nextInt(9);
-        int columns = 2 + dice.nextInt(9);
+        int rows = 3 + dice.nextInt(15);
+        int columns = 3 + dice.nextInt(15);
         int i0 = dice.nextInt(32 - rows + 1);
         int j0 = dice.nextInt(40 - columns + 1);
-        int kind = dice.nextInt(4);
-        field(0, i0, j0, rows, columns, kind, dice.nextBoolean() ? 0 : dice.nextInt(40));
+        int kind = dice.nextInt(8);
+        int[] top = {2, 7, 10, 8192, 12, 12, 12, 12};
+        if (kind < 4) field(0, i0, j0, rows, columns, kind, dice.nextBoolean() ? 0 : dice.nextInt(25));
+        else hills(0, i0, j0, rows, columns);
+        if (dice.nextInt(4) == 0) smooth(0, 0, 1 + dice.nextInt(3));
         spacing(0, 1 + dice.nextInt(100000));
-        for (int v = 0; v < 16; v++) {
-            int span = kind == 0 ? 3 : kind == 3 ? 8192 : 10;
-            level(dice.nextInt(2 * span + 1) - span);
-        }
+        spreadLevels(kind == 0 ? 0 : -top[kind], top[kind]);
         contour(0);
         allLines(60);
         for (int k = 0; k < m.lines.size() && k < 12; k++) {
@@ -192,7 +221,7 @@ public final class ModelTest {
 
     public static void main(String[] args) {
         int calls = 0;
-        for (int run = 0; run < 60; run++) {
+        for (int run = 0; run < 400; run++) {
             ModelTest t = new ModelTest("field " + run, 1000 + run);
             t.fieldRun();
             calls += t.calls;

@@ -359,6 +359,11 @@ public final class PromisesTest {
         due(10, "points inside", hole.line(0, 4), 8);
         due(13, "the hole", hole.inside(0, 2, 2), 0);
         due(13, "beside the hole", hole.inside(0, 2, 3), 1);
+        ContourSheets pit = sheet("555", "505", "555");
+        pit.level(5);
+        pit.contour(0);
+        sides(11, pit, 0, 3, 80, 83, 82);
+        due(10, "what is at the level is the higher ground", pit.line(0, 5), 0);
         ContourSheets open = sheet("00", "09");
         open.level(5);
         open.contour(0);
@@ -392,6 +397,11 @@ public final class PromisesTest {
         due(14, "neighbours of the middle", near.point(0, 1, 1, 6), 8);
         due(14, "of a corner", near.point(0, 0, 0, 6), 3);
         due(14, "of a side", near.point(0, 0, 1, 6), 5);
+        ContourSheets unit = sheet("55", "55");
+        unit.height(0, 1, 1, bits(5 - 1 / 1024.0));
+        due(14, "one unit aslant", unit.point(0, 0, 0, 0), 41);
+        due(14, "one unit beside", unit.point(0, 1, 0, 0), 41);
+        due(15, "and all others run off", unit.count(0, 2), 1);
         ContourSheets one = sheet("7");
         int[] alone = {-1, 0, 1, 7 * 1024, 0, NO_SADDLE, 0};
         for (int what = 0; what <= 6; what++) due(14, "one point, " + what, one.point(0, 0, 0, what), alone[what]);
