@@ -39,10 +39,9 @@ public final class ContourSheets {
     private int levelCount;
     private final Water water;
     private final int[] scratch;
-    /** Null until the first contour: the dearest room, of which most objects may have no need. */
-    private Lines lines;
+    private final Lines lines;
 
-    /** Promise 1. All room but that of the lines is made here, so that no later call needs any. */
+    /** Promise 1. All room is made here, that of the lines too, so that no later call makes any. */
     public ContourSheets() {
         grids = new Grid[GRIDS];
         for (int g = 0; g < GRIDS; g++) {
@@ -52,7 +51,7 @@ public final class ContourSheets {
         levelCount = 0;
         water = new Water();
         scratch = new int[POINTS];
-        lines = null;
+        lines = new Lines();
     }
 
     /** Promise 2. */
@@ -132,16 +131,13 @@ public final class ContourSheets {
         if (grid == null) {
             return NONE;
         }
-        if (lines == null) {
-            lines = new Lines();
-        }
         lines.draw(grid, levelMm, levelCount);
         return lines.size;
     }
 
     /** Promise 10. */
     public int line(int k, int what) {
-        if (lines == null || !lines.has(k)) {
+        if (!lines.has(k)) {
             return NONE;
         }
         switch (what) {
@@ -164,12 +160,12 @@ public final class ContourSheets {
 
     /** Promise 11. */
     public int side(int k, int i) {
-        return lines == null ? NONE : lines.sideOf(k, i);
+        return lines.sideOf(k, i);
     }
 
     /** Promise 12. */
     public long place(int k, int i, int axis) {
-        if (lines == null || axis < 0 || axis > 1) {
+        if (axis < 0 || axis > 1) {
             return 0L;
         }
         int side = lines.sideOf(k, i);
@@ -178,7 +174,7 @@ public final class ContourSheets {
 
     /** Promise 13. */
     public int inside(int k, int i, int j) {
-        if (lines == null || !lines.isClosed(k) || i < 0 || i >= ROWS || j < 0 || j >= COLUMNS) {
+        if (!lines.isClosed(k) || i < 0 || i >= ROWS || j < 0 || j >= COLUMNS) {
             return NONE;
         }
         return lines.holds(k, i, j) ? 1 : 0;
@@ -802,6 +798,8 @@ public final class ContourSheets {
             there = new Area();
             inner = new Area();
             outer = new Area();
+            size = 0;
+            full = false;
         }
 
         void draw(Grid grid, int[] levelMm, int levelCount) {

@@ -1,5 +1,6 @@
 import com.sun.management.ThreadMXBean;
 import java.lang.management.ManagementFactory;
+import java.lang.reflect.Array;
 import java.lang.reflect.Constructor;
 import java.lang.reflect.Field;
 import java.lang.reflect.InvocationTargetException;
@@ -7,6 +8,12 @@ import java.lang.reflect.Method;
 import java.lang.reflect.Modifier;
 import java.nio.file.Files;
 import java.nio.file.Path;
+import java.util.ArrayDeque;
+import java.util.ArrayList;
+import java.util.Collections;
+import java.util.Deque;
+import java.util.IdentityHashMap;
+import java.util.List;
 import java.util.Random;
 import java.util.Set;
 import java.util.TreeSet;
@@ -37,6 +44,8 @@ public final class RulesTest {
         public boolean smooth(int,int,int)
         public int difference(int,int,int)
         """;
+    private static final ThreadMXBean BEAN = (ThreadMXBean) ManagementFactory.getThreadMXBean();
+    private static final long THREAD = Thread.currentThread().getId();
     private static int wrong = 0;
 
     private static void fault(String text) {
@@ -91,39 +100,117 @@ public final class RulesTest {
         }
     }
 
-    /** Bytes bound the room from above: no field or element takes less than one. */
-    private static void room() {
-        ThreadMXBean bean = (ThreadMXBean) ManagementFactory.getThreadMXBean();
-        long thread = Thread.currentThread().getId();
+    /** The room of one run: what an object's constructor makes, and what its calls make, which is nothing. */
+    private static void room() throws IllegalAccessException {
         ContourSheets x = new ContourSheets();
-        for (int i = 0; i < 20; i++) {
-            x.row(0, i, 20, 0);
-            for (int j = 0; j < 20; j++) x.height(0, i, j, Float.floatToRawIntBits((i * 7 + j * 5) % 13));
+        long[] made = counted(x);
+        if (made[0] > 50) fault("a new object is made of " + made[0] + " objects and arrays");
+        if (made[1] > 27000) fault("a new object has " + made[1] + " fields and elements");
+        callAll(x);
+        long[] later = counted(x);
+        if (made[0] != later[0] || made[1] != later[1]) {
+            fault("calls made an object of " + made[1] + " fields and elements into one of " + later[1]);
         }
-        for (int v = 0; v < 16; v++) x.level(v);
-        x.contour(0);
-        bean.getThreadAllocatedBytes(thread);
-        long before = bean.getThreadAllocatedBytes(thread);
-        for (int n = 0; n < 20; n++) {
-            x.contour(0);
-            x.smooth(0, 1, 3);
-            x.difference(0, 1, 2);
-            for (int what = 0; what <= 6; what++) {
-                x.line(n, what);
-                x.point(0, n, n, what);
-                x.count(0, what);
+    }
+
+    /** The objects and arrays that an object holds, itself too, and their fields and elements. */
+    private static long[] counted(Object root) throws IllegalAccessException {
+        Set<Object> known = Collections.newSetFromMap(new IdentityHashMap<>());
+        Deque<Object> open = new ArrayDeque<>();
+        known.add(root);
+        open.add(root);
+        long places = 0;
+        while (!open.isEmpty()) {
+            Object at = open.remove();
+            List<Object> held = new ArrayList<>();
+            if (at.getClass().isArray()) {
+                places += Array.getLength(at);
+                if (at instanceof Object[] all) held.addAll(java.util.Arrays.asList(all));
+            } else {
+                for (Field f : at.getClass().getDeclaredFields()) {
+                    if (Modifier.isStatic(f.getModifiers())) continue;
+                    places++;
+                    f.setAccessible(true);
+                    if (!f.getType().isPrimitive()) held.add(f.get(at));
+                }
             }
+            for (Object o : held) if (o != null && known.add(o)) open.add(o);
+        }
+        return new long[] {known.size(), places};
+    }
+
+    /** No call takes any of the heap: also not the first contour, or any first call, of a new object. */
+    private static void nothingMade() {
+        for (int n = 0; n < 20; n++) callAll(new ContourSheets());
+        long least = Long.MAX_VALUE;
+        for (int n = 0; n < 20; n++) {
+            ContourSheets x = new ContourSheets();
+            long before = BEAN.getThreadAllocatedBytes(THREAD);
+            callAll(x);
+            least = Math.min(least, BEAN.getThreadAllocatedBytes(THREAD) - before);
+        }
+        // The least of many: what the machine itself may take now and then is not the class's.
+        if (least > 0) fault("the calls on a new object took " + least + " bytes");
+        long before = BEAN.getThreadAllocatedBytes(THREAD);
+        ContourSheets y = new ContourSheets();
+        long taken = BEAN.getThreadAllocatedBytes(THREAD) - before;
+        if (taken < 4 * 8000 || y.contour(0) != 0) fault("bytes are not counted here: " + taken);
+    }
+
+    /** Every call of the face, right and wrong, 485 calls in all. */
+    private static void callAll(ContourSheets x) {
+        x.contour(0);
+        x.levels();
+        for (int i = 0; i < 16; i++) {
+            x.row(0, i, 16, 0);
+            for (int j = 0; j < 16; j++) x.height(0, i, j, (127 + (i * 7 + j * 5) % 13) << 23);
+        }
+        for (int v = 0; v < 16; v++) x.level(1 << v % 14);
+        for (int n = -1; n < 4; n++) {
+            x.spacing(n, 7);
+            x.contour(n);
+            x.contour(0);
+            x.smooth(0, n, 3);
+            x.difference(0, 1, n);
+            for (int what = -1; what <= 7; what++) {
+                x.line(n, what);
+                x.point(0, n + 2, n + 2, what);
+                x.count(n, what);
+            }
+            x.side(n, 0);
             x.place(n, 0, 0);
             x.inside(n, 3, 3);
-            x.volume(0, 3, 0);
-            x.seen(0, 0, 0, 19, n, 3);
+            x.volume(0, 3, n);
+            x.seen(0, 0, 0, 15, n, 3);
+            x.at(0, n, n);
+            x.missing(0, 15, n);
         }
-        long used = bean.getThreadAllocatedBytes(thread) - before;
-        if (used > 4096) fault("calls took " + used + " bytes, though the room is made beforehand");
-        before = bean.getThreadAllocatedBytes(thread);
-        new ContourSheets().contour(0);
-        used = bean.getThreadAllocatedBytes(thread) - before;
-        if (used > 200000) fault("a new object took " + used + " bytes");
+    }
+
+    private static final Pattern HEAD = Pattern.compile("^ +(?:[\\w<>\\[\\]]+ )*(\\w+)\\([^()]*\\) \\{$");
+    private static final Pattern INNER = Pattern.compile("\\bclass (\\w+)");
+
+    /** Rows are made in constructors alone. */
+    private static void newOnlyInConstructors(String code) {
+        String inner = "";
+        String head = "";
+        int found = 0;
+        for (String line : code.split("\n")) {
+            Matcher c = INNER.matcher(line);
+            Matcher h = HEAD.matcher(line);
+            if (c.find()) {
+                inner = c.group(1);
+                head = "";
+            } else if (h.find() && !line.matches("^ +(if|for|while|switch|\\} else if) .*")) {
+                head = h.group(1);
+            }
+            if (Pattern.compile("\\bnew\\b").matcher(line).find()) {
+                found++;
+                if (!head.equals(inner)) fault("made outside of a constructor, in " + head + ":" + line);
+            }
+            if (Pattern.compile("\\.clone\\(|copyOf|StringBuilder|List|values\\(").matcher(line).find()) fault("makes a copy:" + line);
+        }
+        if (found < 20) fault("only " + found + " times new was found");
     }
 
     private static void language() throws java.io.IOException {
@@ -131,6 +218,7 @@ public final class RulesTest {
         String code = source.replaceAll("(?s)/\\*.*?\\*/", "").replaceAll("//.*", "");
         String[] never = {"\\bcatch\\b", "\\btry\\b", "\\bthrow\\b", "->", "::", "\\bfloat\\b", "\\bdouble\\b", "Exact\\b",
             "\\bsynchronized\\b", "\\bassert\\b", "\\bprotected\\b", "\\bpackage\\b", "static \\{", "\\bFloat\\.", "\\bDouble\\.", "\\bSystem\\.(?!arraycopy)"};
+        newOnlyInConstructors(code);
         for (String p : never) if (Pattern.compile(p).matcher(code).find()) fault("the source has " + p);
         for (char c : source.toCharArray()) if (c > 126) fault("the source has the sign " + (int) c);
         Matcher imports = Pattern.compile("import (\\S+);").matcher(code);
@@ -151,6 +239,7 @@ public final class RulesTest {
         face();
         anyArguments();
         room();
+        nothingMade();
         language();
         System.out.println(wrong + " rules broken");
         if (wrong != 0) System.exit(1);
