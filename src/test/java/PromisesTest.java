@@ -45,6 +45,19 @@ public final class PromisesTest {
         due(promise, "side behind the last", x.side(k, want.length), -1);
     }
 
+    private static void noLines(ContourSheets x) {
+        int[] some = {Integer.MIN_VALUE, -1, 0, 1, 399, 400, Integer.MAX_VALUE};
+        for (int k : some) {
+            for (int what = -1; what <= 6; what++) due(10, "line before any contour", x.line(k, what), -1);
+            for (int i : some) {
+                due(11, "side before any contour", x.side(k, i), -1);
+                due(12, "x before any contour", x.place(k, i, 0), 0);
+                due(12, "y before any contour", x.place(k, i, 1), 0);
+                due(13, "inside before any contour", x.inside(k, i, 0), -1);
+            }
+        }
+    }
+
     private static void fresh() {
         ContourSheets x = new ContourSheets();
         for (int g = 0; g < 4; g++) {
@@ -53,10 +66,9 @@ public final class PromisesTest {
             due(1, "at", x.at(g, 0, 0), NOT_THERE);
             due(1, "volume", x.volume(g, -8192, 0), 0);
         }
-        due(1, "line before any contour", x.line(0, 0), -1);
-        due(1, "side before any contour", x.side(0, 0), -1);
-        due(1, "place before any contour", x.place(0, 0, 0), 0);
-        due(1, "inside before any contour", x.inside(0, 0, 0), -1);
+        noLines(x);
+        for (int g : WRONG) due(9, "no such grid before any contour", x.contour(g), -1);
+        noLines(x);
         draw(x, 0, 1, "00", "09");
         due(1, "no levels at first", x.contour(0), 0);
         x.level(1);
