@@ -66,9 +66,10 @@ public final class PromisesTest {
             due(1, "at", x.at(g, 0, 0), NOT_THERE);
             due(1, "volume", x.volume(g, -8192, 0), 0);
         }
-        noLines(x);
-        for (int g : WRONG) due(9, "no such grid before any contour", x.contour(g), -1);
-        noLines(x);
+        noLines(new ContourSheets());
+        ContourSheets y = new ContourSheets();
+        for (int g : WRONG) due(9, "no such grid before any contour", y.contour(g), -1);
+        noLines(y);
         draw(x, 0, 1, "00", "09");
         due(1, "no levels at first", x.contour(0), 0);
         x.level(1);
