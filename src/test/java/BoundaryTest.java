@@ -1,0 +1,106 @@
+import java.io.IOException;
+import java.lang.reflect.InvocationTargetException;
+import java.lang.reflect.Method;
+import java.nio.file.Files;
+import java.nio.file.Path;
+import java.util.ArrayList;
+import java.util.Comparator;
+import java.util.List;
+import java.util.Map;
+import java.util.TreeMap;
+
+/**
+ * Runs the tests of the boundary cases. Each is named after its promise and quotes the words of the document
+ * that it holds; those words must stand there, and no sentence of a promise or of the terms may be without a test.
+ */
+public final class BoundaryTest {
+    private static final Path DOCUMENT = Path.of("../shared/DOC.md");
+    private static final int PROMISES = 19;
+    private static final int TERMS = 0;
+    private static final Class<?>[] TESTS = {GridBoundaries.class, LineBoundaries.class, GroundBoundaries.class};
+
+    private static List<Method> tests() {
+        List<Method> all = new ArrayList<>();
+        for (Class<?> c : TESTS) {
+            for (Method m : c.getDeclaredMethods()) if (m.isAnnotationPresent(Boundary.Says.class)) all.add(m);
+        }
+        all.sort(Comparator.comparing(Method::getName));
+        return all;
+    }
+
+    private static void run(Method test) throws IllegalAccessException {
+        Boundary.running = test.getName();
+        int before = Boundary.asked;
+        try {
+            test.invoke(null);
+        } catch (InvocationTargetException e) {
+            Boundary.fault("threw " + e.getCause());
+        }
+        if (Boundary.asked == before) Boundary.fault("asked nothing");
+    }
+
+    /** The text of each promise by its number, and that of the terms by 0, in one line each. */
+    private static Map<Integer, String> sections() throws IOException {
+        Map<Integer, StringBuilder> found = new TreeMap<>();
+        StringBuilder open = new StringBuilder();
+        for (String line : Files.readAllLines(DOCUMENT)) {
+            if (line.startsWith("## ")) {
+                open = new StringBuilder();
+                if (line.equals("## Terms")) found.put(TERMS, open);
+                if (line.startsWith("## Promise ")) found.put(Integer.parseInt(line.replaceAll("## Promise (\\d+):.*", "$1")), open);
+            } else if (!line.startsWith("```")) {
+                open.append(' ').append(line);
+            }
+        }
+        Map<Integer, String> sections = new TreeMap<>();
+        found.forEach((number, text) -> sections.put(number, text.toString().replaceAll("==== (I\\.|II+\\. [^.]*\\.)", "").replaceAll("\\s+", " ").trim()));
+        return sections;
+    }
+
+    private static void wordsStandInTheDocument(List<Method> tests, Map<Integer, String> sections) {
+        for (Method test : tests) {
+            Boundary.running = test.getName();
+            Boundary.Says says = test.getAnnotation(Boundary.Says.class);
+            if (!test.getName().startsWith(String.format("promise%02d_", says.promise()[0]))) Boundary.fault("is named after another promise");
+            for (String words : says.words()) {
+                boolean stands = sections.get(TERMS).contains(words);
+                for (int promise : says.promise()) stands = stands || sections.getOrDefault(promise, "").contains(words);
+                if (!stands) Boundary.fault("the document does not say there: " + words);
+            }
+        }
+    }
+
+    /** A sentence ends with a point right behind a word: that of "0 .. 3" does not. */
+    private static void noSentenceWithoutATest(List<Method> tests, Map<Integer, String> sections) {
+        Boundary.running = "the document";
+        int sentences = 0;
+        for (Map.Entry<Integer, String> section : sections.entrySet()) {
+            for (String sentence : section.getValue().split("(?<=[\\w)`])\\.(?= |$)")) {
+                sentences++;
+                boolean held = false;
+                for (Method test : tests) {
+                    Boundary.Says says = test.getAnnotation(Boundary.Says.class);
+                    boolean here = section.getKey() == TERMS;
+                    for (int promise : says.promise()) here = here || promise == section.getKey();
+                    for (String words : says.words()) held = held || here && sentence.contains(words.replaceAll("\\.$", ""));
+                }
+                if (!held) Boundary.fault("no test for: " + sentence.trim());
+            }
+        }
+        if (sections.size() != PROMISES + 1 || sentences < 60) Boundary.fault(sections.size() + " sections with " + sentences + " sentences");
+    }
+
+    public static void main(String[] args) throws Exception {
+        List<Method> tests = tests();
+        for (Method test : tests) run(test);
+        if (Files.exists(DOCUMENT)) {
+            Map<Integer, String> sections = sections();
+            wordsStandInTheDocument(tests, sections);
+            noSentenceWithoutATest(tests, sections);
+        } else {
+            System.out.println("the document was not found: the words that tests quote were not looked up");
+        }
+        System.out.println(tests.size() + " boundary tests, " + Boundary.asked + " answers, " + Boundary.wrong + " not as due");
+        if (Boundary.wrong != 0) System.exit(1);
+    }
+}
