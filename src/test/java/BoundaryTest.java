@@ -17,6 +17,7 @@ public final class BoundaryTest {
     private static final Path DOCUMENT = Path.of("../shared/DOC.md");
     private static final int PROMISES = 19;
     private static final int TERMS = 0;
+    private static final int FRAME = -1;
     private static final Class<?>[] TESTS = {GridBoundaries.class, LineBoundaries.class, GroundBoundaries.class};
 
     private static List<Method> tests() {
@@ -39,13 +40,14 @@ public final class BoundaryTest {
         if (Boundary.asked == before) Boundary.fault("asked nothing");
     }
 
-    /** The text of each promise by its number, and that of the terms by 0, in one line each. */
+    /** The text of each promise by its number, that of the terms by 0, what stands around them by -1, in one line each. */
     private static Map<Integer, String> sections() throws IOException {
         Map<Integer, StringBuilder> found = new TreeMap<>();
         StringBuilder open = new StringBuilder();
         for (String line : Files.readAllLines(DOCUMENT)) {
             if (line.startsWith("## ")) {
                 open = new StringBuilder();
+                if (line.equals("## What it is")) found.put(FRAME, open);
                 if (line.equals("## Terms")) found.put(TERMS, open);
                 if (line.startsWith("## Promise ")) found.put(Integer.parseInt(line.replaceAll("## Promise (\\d+):.*", "$1")), open);
             } else if (!line.startsWith("```")) {
@@ -63,7 +65,7 @@ public final class BoundaryTest {
             Boundary.Says says = test.getAnnotation(Boundary.Says.class);
             if (!test.getName().startsWith(String.format("promise%02d_", says.promise()[0]))) Boundary.fault("is named after another promise");
             for (String words : says.words()) {
-                boolean stands = sections.get(TERMS).contains(words);
+                boolean stands = sections.get(TERMS).contains(words) || sections.get(FRAME).contains(words);
                 for (int promise : says.promise()) stands = stands || sections.getOrDefault(promise, "").contains(words);
                 if (!stands) Boundary.fault("the document does not say there: " + words);
             }
@@ -75,6 +77,7 @@ public final class BoundaryTest {
         Boundary.running = "the document";
         int sentences = 0;
         for (Map.Entry<Integer, String> section : sections.entrySet()) {
+            if (section.getKey() == FRAME) continue;
             for (String sentence : section.getValue().split("(?<=[\\w)`])\\.(?= |$)")) {
                 sentences++;
                 boolean held = false;
@@ -87,7 +90,7 @@ public final class BoundaryTest {
                 if (!held) Boundary.fault("no test for: " + sentence.trim());
             }
         }
-        if (sections.size() != PROMISES + 1 || sentences < 60) Boundary.fault(sections.size() + " sections with " + sentences + " sentences");
+        if (sections.size() != PROMISES + 2 || sentences < 60) Boundary.fault(sections.size() + " sections with " + sentences + " sentences");
     }
 
     public static void main(String[] args) throws Exception {

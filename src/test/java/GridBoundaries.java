@@ -70,6 +70,17 @@ final class GridBoundaries extends Boundary {
         due(java.util.Arrays.equals(before, after) ? 1 : 0, 1);
     }
 
+    @Says(promise = 1, words = "An object is used for at most 512 calls after it has been made")
+    static void promise01_upToThe512thCall() {
+        Sheets x = made(FULL);
+        for (int n = x.left(); n > 4; n--) due(x.level(n), NONE);
+        due(x.contour(0), 400);
+        due(x.line(399, 0), 15);
+        due(x.height(0, 0, 0, bits(8192)), TRUE);
+        due(x.at(0, 0, 0), bits(8192));
+        due(x.left(), 0);
+    }
+
     @Says(promise = 1, words = "`NONE = -1`")
     static void promise01_constantNone() {
         due(ContourSheets.NONE, -1);

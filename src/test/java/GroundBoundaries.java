@@ -179,6 +179,52 @@ final class GroundBoundaries extends Boundary {
         due(x.point(0, 0, 1, 3), -TOP);
     }
 
+    @Says(promise = 14, words = "FILLED: the least height to which one must rise on a way over NEIGHBOURS, itself too, to a point at the RIM")
+    static void promise14_filledByAnyOfTheEightWays() {
+        for (int[] p : RING) {
+            Sheets x = sheet("999", "909", "999");
+            put(x, 0, p[0], p[1], 3);
+            due(x.point(0, 1, 1, 3), 3 * 1024);
+        }
+        // A near way over (2, 0) and a far one over 8 to (6, 1): the one on which one must rise less.
+        Sheets two = sheet("9999999", "9088889", "6999489", "9999489", "9994449", "9945999", "9999999");
+        due(two.point(0, 1, 1, 3), 6 * 1024);
+        put(two, 0, 2, 0, 7);
+        due(two.point(0, 1, 1, 3), 7 * 1024);
+        put(two, 0, 2, 0, 9);
+        due(two.point(0, 1, 1, 3), 9 * 1024);
+        due(two.point(0, 5, 2, 3), 9 * 1024);
+        put(two, 0, 6, 1, 8);
+        due(two.point(0, 1, 1, 3), 8 * 1024);
+        due(two.point(0, 5, 2, 3), 8 * 1024);
+        due(two.point(0, 2, 4, 3), 8 * 1024);
+        put(two, 0, 2, 0, 8 - UNIT);
+        due(two.point(0, 1, 1, 3), 8 * 1024 - 1);
+        due(two.point(0, 5, 2, 3), 8 * 1024);
+    }
+
+    @Says(promise = 14, words = "the greatest height for which there is a way over NEIGHBOURS to some point ABOVE it on which nothing is lower")
+    static void promise14_saddleByAnyOfTheEightWays() {
+        for (int[] p : RING) {
+            Sheets x = new Sheets();
+            for (int i = 0; i < 5; i++) x.row(0, i, 5, 0);
+            put(x, 0, 2, 2, 5);
+            put(x, 0, 1 + p[0], 1 + p[1], 2);
+            due(x.point(0, 2, 2, 5), NO_SADDLE);
+            put(x, 0, 2 * p[0], 2 * p[1], 9);
+            due(x.point(0, 2, 2, 5), 2 * 1024);
+        }
+        // A near way over 1 and a far one over 2 and 3, each to a higher point.
+        Sheets two = sheet("7.....", "1.4333", "85...3", "1....2", "7....9");
+        due(two.point(0, 2, 0, 5), 2 * 1024);
+        put(two, 0, 3, 5, 1 - UNIT);
+        due(two.point(0, 2, 0, 5), 1023);
+        put(two, 0, 0, 0, 8 + UNIT);
+        due(two.point(0, 2, 0, 5), 1024);
+        put(two, 0, 3, 5, 1 + UNIT);
+        due(two.point(0, 2, 0, 5), 1025);
+    }
+
     @Says(promise = {14, 15}, words = {"A point is at the RIM if it has fewer than eight", "6 how many NEIGHBOURS"})
     static void promise14_sevenNeighboursOrEight() {
         for (int n = 0; n < 9; n++) {

@@ -735,6 +735,28 @@ final class LineBoundaries extends Boundary {
         for (int i = 0; i < 2; i++) due(x.place(0, i, 0), place(1000 / 5121.0));
     }
 
+    @Says(promise = 12, words = "a the height at its point, b at the other end, L the level (UNITS)")
+    static void promise12_aRiseOrFallOfOneUnit() {
+        // The level is the higher end itself: the place is that point, whichever end it is.
+        Sheets x = sheet("5555", "5555", "5555", "5555");
+        for (int n = 0; n < 4; n++) put(x, 0, n / 2 + 1, n % 2 + 1, 5 - UNIT);
+        draw(x, 1, 0, 0, "5555", "5555", "5555", "5555");
+        for (int n = 0; n < 16; n++) if (n / 4 % 3 == 0 || n % 4 % 3 == 0) put(x, 1, n / 4, n % 4, 5 - UNIT);
+        x.level(5);
+        int[][] pit = {{1, 0}, {0, 1}, {0, 2}, {1, 3}, {2, 3}, {3, 2}, {3, 1}, {2, 0}};
+        int[][] hill = {{1, 1}, {2, 1}, {2, 1}, {2, 2}, {2, 2}, {1, 2}, {1, 2}, {1, 1}};
+        for (int g = 0; g < 2; g++) {
+            due(x.contour(g), 1);
+            due(x.line(0, 1), 8);
+            due(x.line(0, 5), g);
+            for (int i = 0; i < 8; i++) {
+                int[] want = g == 1 ? hill[i] : pit[i];
+                due(x.place(0, i, 0), place(1000 * want[0]));
+                due(x.place(0, i, 1), place(1000 * want[1]));
+            }
+        }
+    }
+
     @Says(promise = 12, words = "(as the grid was when the lines were made)")
     static void promise12_asTheGridWas() {
         Call[] later = {x -> x.spacing(0, 1), x -> x.height(0, 1, 1, bits(-8192)), x -> x.missing(0, 1, 1), x -> x.row(0, 1, 0, 0),
@@ -753,7 +775,14 @@ final class LineBoundaries extends Boundary {
 
     @Says(promise = 12, words = "0 if there is none such")
     static void promise12_noSuchAxisSideOrLine() {
-        for (int axis : new int[] {-1, 2, MIN, MAX}) refused(0, x -> x.place(0, 0, axis));
+        // Sides of both kinds, away from the first row and column: neither of their places is 0.
+        for (int axis : new int[] {-1, 2, MIN, MAX}) {
+            refused(0, x -> x.place(0, 0, axis));
+            refusedIn(USED, 0, x -> x.place(0, 4, axis));
+            refusedIn(USED, 0, x -> x.place(0, 6, axis));
+            refusedIn(FULL, 0, x -> x.place(399, 0, axis));
+            refusedIn(FULL, 0, x -> x.place(399, 1, axis));
+        }
         for (int axis = 0; axis < 2; axis++) {
             int a = axis;
             for (int i : new int[] {-1, 8000, MIN, MAX}) refused(0, x -> x.place(0, i, a));
@@ -818,6 +847,16 @@ final class LineBoundaries extends Boundary {
         due(x.line(0, 4), 8);
         x.row(0, 2, 5, 0);
         due(x.inside(0, 10, 10), 0);
+        // Once more, without a point that was there at the former contour.
+        Sheets again = sheet("00000", "09990", "09990", "09990", "00000");
+        again.level(5);
+        again.contour(0);
+        due(again.inside(0, 2, 2), 1);
+        due(again.line(0, 4), 9);
+        due(again.missing(0, 2, 2), TRUE);
+        due(again.contour(0), 1);
+        due(again.inside(0, 2, 2), 0);
+        due(again.line(0, 4), 8);
         changesNothing(USED, y -> y.inside(0, 2, 2));
     }
 }

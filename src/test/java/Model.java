@@ -270,6 +270,7 @@ final class Model {
             if (best == -1) { best = m; continue; }
             Line b = lines.get(best);
             long near = Math.abs(o.units - l.units) - Math.abs(b.units - l.units);
+            if (o.in.size() == b.in.size() && near == 0) throw new IllegalStateException("two parents alike");
             if (o.in.size() < b.in.size() || o.in.size() == b.in.size() && near < 0) best = m;
         }
         return best;
