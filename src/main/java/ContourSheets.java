@@ -183,10 +183,10 @@ public final class ContourSheets {
     /** Promise 14. */
     public int point(int g, int i, int j, int what) {
         Grid grid = gridOf(g);
-        int n = grid == null ? NONE : grid.numberOf(i, j);
-        if (n == NONE) {
+        if (grid == null || !grid.has(i, j)) {
             return NO_ANSWER;
         }
+        int n = COLUMNS * i + j;
         switch (what) {
             case 0:
                 return Water.downFrom(grid, n);

@@ -4,21 +4,23 @@ import java.lang.reflect.Method;
 import java.nio.file.Files;
 import java.nio.file.Path;
 import java.util.ArrayList;
+import java.util.Arrays;
 import java.util.Comparator;
 import java.util.List;
 import java.util.Map;
 import java.util.TreeMap;
 
 /**
- * Runs the tests of the boundary cases. Each is named after its promise and quotes the words of the document
- * that it holds; those words must stand there, and no sentence of a promise or of the terms may be without a test.
+ * Runs the tests that go through the document, its boundary cases above all. Each is named after its promise and
+ * quotes the words of the document that it holds; those words must stand there, and no word of what the class is, of
+ * the terms or of a promise may be without a test.
  */
 public final class BoundaryTest {
     private static final Path DOCUMENT = Path.of("../shared/DOC.md");
     private static final int PROMISES = 19;
     private static final int TERMS = 0;
     private static final int FRAME = -1;
-    private static final Class<?>[] TESTS = {GridBoundaries.class, LineBoundaries.class, GroundBoundaries.class};
+    private static final Class<?>[] TESTS = {WholeDocument.class, GridBoundaries.class, LineBoundaries.class, GroundBoundaries.class};
 
     private static List<Method> tests() {
         List<Method> all = new ArrayList<>();
@@ -40,7 +42,10 @@ public final class BoundaryTest {
         if (Boundary.asked == before) Boundary.fault("asked nothing");
     }
 
-    /** The text of each promise by its number, that of the terms by 0, what stands around them by -1, in one line each. */
+    /**
+     * The text of each promise by its number, that of the terms by 0, what the class is by -1, in one line each. The
+     * headings of the terms, and the calls before the promises (RulesTest looks at the face), are left out.
+     */
     private static Map<Integer, String> sections() throws IOException {
         Map<Integer, StringBuilder> found = new TreeMap<>();
         StringBuilder open = new StringBuilder();
@@ -55,7 +60,8 @@ public final class BoundaryTest {
             }
         }
         Map<Integer, String> sections = new TreeMap<>();
-        found.forEach((number, text) -> sections.put(number, text.toString().replaceAll("==== (I\\.|II+\\. [^.]*\\.)", "").replaceAll("\\s+", " ").trim()));
+        found.forEach((number, text) -> sections.put(number, text.toString().replaceAll("==== (I\\.|II+\\. [^.]*\\.)", "")
+            .replaceAll("^\\s*`[^`]*`:", "").replaceAll("\\s+", " ").trim()));
         return sections;
     }
 
@@ -63,7 +69,9 @@ public final class BoundaryTest {
         for (Method test : tests) {
             Boundary.running = test.getName();
             Boundary.Says says = test.getAnnotation(Boundary.Says.class);
-            if (!test.getName().startsWith(String.format("promise%02d_", says.promise()[0]))) Boundary.fault("is named after another promise");
+            int first = says.promise()[0];
+            String name = first == TERMS ? "document_" : String.format("promise%02d_", first);
+            if (!test.getName().startsWith(name)) Boundary.fault("is named after another promise");
             for (String words : says.words()) {
                 boolean stands = sections.get(TERMS).contains(words) || sections.get(FRAME).contains(words);
                 for (int promise : says.promise()) stands = stands || sections.getOrDefault(promise, "").contains(words);
@@ -72,25 +80,31 @@ public final class BoundaryTest {
         }
     }
 
-    /** A sentence ends with a point right behind a word: that of "0 .. 3" does not. */
-    private static void noSentenceWithoutATest(List<Method> tests, Map<Integer, String> sections) {
-        Boundary.running = "the document";
-        int sentences = 0;
-        for (Map.Entry<Integer, String> section : sections.entrySet()) {
-            if (section.getKey() == FRAME) continue;
-            for (String sentence : section.getValue().split("(?<=[\\w)`])\\.(?= |$)")) {
-                sentences++;
-                boolean held = false;
-                for (Method test : tests) {
-                    Boundary.Says says = test.getAnnotation(Boundary.Says.class);
-                    boolean here = section.getKey() == TERMS;
-                    for (int promise : says.promise()) here = here || promise == section.getKey();
-                    for (String words : says.words()) held = held || here && sentence.contains(words.replaceAll("\\.$", ""));
-                }
-                if (!held) Boundary.fault("no test for: " + sentence.trim());
+    /** The text of a section without the words that tests quote of it: a new line stands for each of their signs. */
+    private static String unquoted(List<Method> tests, int section, String text) {
+        char[] left = text.toCharArray();
+        for (Method test : tests) {
+            Boundary.Says says = test.getAnnotation(Boundary.Says.class);
+            boolean here = section == TERMS || section == FRAME;
+            for (int promise : says.promise()) here = here || promise == section;
+            if (!here) continue;
+            for (String words : says.words()) {
+                for (int at = text.indexOf(words); at >= 0; at = text.indexOf(words, at + 1)) Arrays.fill(left, at, at + words.length(), '\n');
             }
         }
-        if (sections.size() != PROMISES + 2 || sentences < 60) Boundary.fault(sections.size() + " sections with " + sentences + " sentences");
+        return new String(left);
+    }
+
+    private static void noWordWithoutATest(List<Method> tests, Map<Integer, String> sections) {
+        Boundary.running = "the document";
+        int words = 0;
+        for (Map.Entry<Integer, String> section : sections.entrySet()) {
+            words += section.getValue().split(" ").length;
+            for (String rest : unquoted(tests, section.getKey(), section.getValue()).split("\n+")) {
+                if (rest.matches(".*\\w.*")) Boundary.fault("no test for: " + rest.trim());
+            }
+        }
+        if (sections.size() != PROMISES + 2 || words < 1000) Boundary.fault(sections.size() + " sections with " + words + " words");
     }
 
     public static void main(String[] args) throws Exception {
@@ -99,11 +113,11 @@ public final class BoundaryTest {
         if (Files.exists(DOCUMENT)) {
             Map<Integer, String> sections = sections();
             wordsStandInTheDocument(tests, sections);
-            noSentenceWithoutATest(tests, sections);
+            noWordWithoutATest(tests, sections);
         } else {
             System.out.println("the document was not found: the words that tests quote were not looked up");
         }
-        System.out.println(tests.size() + " boundary tests, " + Boundary.asked + " answers, " + Boundary.wrong + " not as due");
+        System.out.println(tests.size() + " tests of the document, " + Boundary.asked + " answers, " + Boundary.wrong + " not as due");
         if (Boundary.wrong != 0) System.exit(1);
     }
 }

@@ -81,7 +81,7 @@ final class GridBoundaries extends Boundary {
         due(x.left(), 0);
     }
 
-    @Says(promise = 1, words = "`NONE = -1`")
+    @Says(promise = 1, words = "The constants: `NONE = -1`: None.")
     static void promise01_constantNone() {
         due(ContourSheets.NONE, -1);
     }
@@ -143,7 +143,7 @@ final class GridBoundaries extends Boundary {
 
     // ---- Promise 3: row
 
-    @Says(promise = {3, 4}, words = {"A row gets LENGTH and OFFSET", "ROWS 0 .. 31", "its points are in columns OFFSET .. OFFSET + LENGTH - 1, all within 0 .. 39"})
+    @Says(promise = {3, 4}, words = {"A row gets LENGTH and OFFSET", "ROWS 0 .. 31, each with an OFFSET and a LENGTH: its points are in columns OFFSET .. OFFSET + LENGTH - 1, all within 0 .. 39"})
     static void promise03_columnsFromOffsetToItsEnd() {
         int[][] shapes = {{40, 0}, {39, 0}, {39, 1}, {1, 0}, {1, 39}, {2, 38}, {20, 20}, {3, 4}};
         for (int g : new int[] {0, 3}) {

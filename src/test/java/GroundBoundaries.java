@@ -361,7 +361,7 @@ final class GroundBoundaries extends Boundary {
         refused(NONE, x -> x.count(0, 6));
     }
 
-    @Says(promise = 15, words = "0 points THERE, 1 WHOLE cells, 2 PITS, 3 SUMMITS, 4 PASSES, 5 points at the RIM")
+    @Says(promise = 15, words = "Of a grid: 0 points THERE, 1 WHOLE cells, 2 PITS, 3 SUMMITS, 4 PASSES, 5 points at the RIM")
     static void promise15_emptyGridsAndOnePoint() {
         Sheets x = new Sheets();
         for (int i = 0; i < 32; i++) x.row(3, i, 40, 0);
@@ -374,7 +374,7 @@ final class GroundBoundaries extends Boundary {
         for (int what = 0; what <= 5; what++) due(x.count(3, what), 0);
     }
 
-    @Says(promise = 15, words = "0 points THERE, 1 WHOLE cells, 2 PITS, 3 SUMMITS, 4 PASSES, 5 points at the RIM")
+    @Says(promise = 15, words = "Of a grid: 0 points THERE, 1 WHOLE cells, 2 PITS, 3 SUMMITS, 4 PASSES, 5 points at the RIM")
     static void promise15_rowsFromEndToEnd() {
         // 480 points, with the rows: as many as an object's calls can make.
         for (int i0 : new int[] {0, 20}) {
@@ -671,7 +671,7 @@ final class GroundBoundaries extends Boundary {
         }
     }
 
-    @Says(promise = 18, words = "by weight and their number, to the nearest whole")
+    @Says(promise = 18, words = {"each point THERE with (weight * its own UNITS + those of its NEIGHBOURS in its row or column) by weight and their number, to the nearest whole, a half to the even one: true"})
     static void promise18_leastAndGreatestWeight() {
         Sheets x = new Sheets();
         plain(x, 0, 3, 3, -8192);

@@ -235,7 +235,7 @@ final class LineBoundaries extends Boundary {
         }
     }
 
-    @Says(promise = {9, 11}, words = {"In a WHOLE cell two or four SIDES are crossed", "if the sum of the four heights is at least four times the level, the two SIDES at each lower corner are joined; else the two at each higher one"})
+    @Says(promise = {9, 11}, words = {"saddles joined by an exact sign", "In a WHOLE cell two or four SIDES are crossed", "Four (higher ends at two opposite corners): if the sum of the four heights is at least four times the level, the two SIDES at each lower corner are joined; else the two at each higher one"})
     static void promise09_fourSidesAndTheSum() {
         for (double less : new double[] {0, UNIT}) {
             Sheets x = sheet("90", "09");
@@ -658,7 +658,7 @@ final class LineBoundaries extends Boundary {
 
     // ---- Promise 12: place
 
-    @Says(promise = 12, words = {"Its place: x (axis 0), y (1), the bits of the double", "x (dir 0), y (dir 1) is SPACING * (column, row * (b - a) + (L - a)) / (b - a), the nearest double"})
+    @Says(promise = 12, words = {"Its place: x (axis 0), y (1), the bits of the double", "x (dir 0), y (dir 1) is SPACING * (column, row * (b - a) + (L - a)) / (b - a), the nearest double", "the other one SPACING * row, column"})
     static void promise12_farthestAndNearestPlaces() {
         Sheets x = new Sheets();
         draw(x, 0, 30, 38, "00", "09");

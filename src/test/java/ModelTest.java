@@ -1,15 +1,24 @@
+import java.util.ArrayList;
+import java.util.List;
 import java.util.Random;
 import java.util.TreeSet;
 
 /**
- * Runs of calls, made up by fixed seeds, on the class and on the model: every answer must be the same.
- * Some runs ask more than 512 times: the class keeps no count of its calls, so that they tell more.
+ * Runs of calls, made up by fixed seeds, on the class and on the model: every answer must be the same. Nothing is
+ * promised about an object after its 512th call: when one has been asked so often, a new one is brought to the same
+ * state by the calls that have changed something, and the run goes on with it.
  */
 public final class ModelTest {
     private static int wrong = 0;
 
     private final Random dice;
-    private final ContourSheets x = new ContourSheets();
+    private static final int MOST_CALLS = 512;
+
+    private interface Call { long on(ContourSheets x); }
+
+    private ContourSheets x = new ContourSheets();
+    private final List<Call> changes = new ArrayList<>();
+    private int used = 0;
     private final Model m = new Model();
     private final String name;
     private int calls = 0;
@@ -20,34 +29,60 @@ public final class ModelTest {
         dice = new Random(seed * 0x9E3779B97F4A7C15L);
     }
 
-    private void same(String call, long got, long want) {
+    private void same(String name, Call call, long want, int... arguments) {
         calls++;
+        long got = asked(call);
         if (got != want && ++wrong <= 20) {
-            System.out.println(name + ", call " + calls + ": " + call + " answered " + got + ", the model " + want);
+            System.out.println(this.name + ", call " + calls + ": " + name + java.util.Arrays.toString(arguments) + " answered " + got + ", the model " + want);
         }
     }
 
-    private static long b(boolean v) { return v ? 1 : 0; }
-    private static String t(String name, int... a) { return name + java.util.Arrays.toString(a); }
+    private long asked(Call call) {
+        if (used == MOST_CALLS) {
+            x = new ContourSheets();
+            used = 0;
+            for (Call change : changes) asked(change);
+        }
+        used++;
+        return call.on(x);
+    }
 
-    private void spacing(int g, int mm) { same(t("spacing", g, mm), b(x.spacing(g, mm)), b(m.spacing(g, mm))); }
-    private void row(int g, int i, int l, int o) { same(t("row", g, i, l, o), b(x.row(g, i, l, o)), b(m.row(g, i, l, o))); }
-    private void height(int g, int i, int j, int bits) { same(t("height", g, i, j, bits), b(x.height(g, i, j, bits)), b(m.height(g, i, j, bits))); }
-    private void missing(int g, int i, int j) { same(t("missing", g, i, j), b(x.missing(g, i, j)), b(m.missing(g, i, j))); }
-    private void at(int g, int i, int j) { same(t("at", g, i, j), x.at(g, i, j), m.at(g, i, j)); }
-    private void level(int mm) { same(t("level", mm), x.level(mm), m.level(mm)); }
-    private void levels() { x.levels(); m.levels(); calls++; }
-    private void contour(int g) { same(t("contour", g), x.contour(g), m.contour(g)); }
-    private void line(int k, int what) { same(t("line", k, what), x.line(k, what), m.line(k, what)); }
-    private void side(int k, int i) { same(t("side", k, i), x.side(k, i), m.side(k, i)); }
-    private void place(int k, int i, int axis) { same(t("place", k, i, axis), x.place(k, i, axis), m.place(k, i, axis)); }
-    private void inside(int k, int i, int j) { same(t("inside", k, i, j), x.inside(k, i, j), m.inside(k, i, j)); }
-    private void point(int g, int i, int j, int what) { same(t("point", g, i, j, what), x.point(g, i, j, what), m.point(g, i, j, what)); }
-    private void count(int g, int what) { same(t("count", g, what), x.count(g, what), m.count(g, what)); }
-    private void volume(int g, int mm, int what) { same(t("volume", g, mm, what), x.volume(g, mm, what), m.volume(g, mm, what)); }
-    private void seen(int g, int i, int j, int i2, int j2, int eye) { same(t("seen", g, i, j, i2, j2, eye), x.seen(g, i, j, i2, j2, eye), m.seen(g, i, j, i2, j2, eye)); }
-    private void smooth(int g, int to, int w) { same(t("smooth", g, to, w), b(x.smooth(g, to, w)), b(m.smooth(g, to, w))); }
-    private void difference(int g, int h, int to) { same(t("difference", g, h, to), x.difference(g, h, to), m.difference(g, h, to)); }
+    /** A call that may change something: an object made later must be given it too. */
+    private void change(String name, Call call, long want, int... arguments) {
+        same(name, call, want, arguments);
+        changes.add(call);
+        if (changes.size() >= MOST_CALLS) throw new IllegalStateException(this.name + " changes more than an object's calls can");
+    }
+
+    private static long b(boolean v) { return v ? 1 : 0; }
+
+    private void spacing(int g, int mm) { change("spacing", o -> b(o.spacing(g, mm)), b(m.spacing(g, mm)), g, mm); }
+    private void row(int g, int i, int l, int at) { change("row", o -> b(o.row(g, i, l, at)), b(m.row(g, i, l, at)), g, i, l, at); }
+    private void height(int g, int i, int j, int bits) { change("height", o -> b(o.height(g, i, j, bits)), b(m.height(g, i, j, bits)), g, i, j, bits); }
+    private void missing(int g, int i, int j) { change("missing", o -> b(o.missing(g, i, j)), b(m.missing(g, i, j)), g, i, j); }
+    private void at(int g, int i, int j) { same("at", o -> o.at(g, i, j), m.at(g, i, j), g, i, j); }
+    private void level(int mm) { change("level", o -> o.level(mm), m.level(mm), mm); }
+    private void contour(int g) { change("contour", o -> o.contour(g), m.contour(g), g); }
+    private void line(int k, int what) { same("line", o -> o.line(k, what), m.line(k, what), k, what); }
+    private void side(int k, int i) { same("side", o -> o.side(k, i), m.side(k, i), k, i); }
+    private void place(int k, int i, int axis) { same("place", o -> o.place(k, i, axis), m.place(k, i, axis), k, i, axis); }
+    private void inside(int k, int i, int j) { same("inside", o -> o.inside(k, i, j), m.inside(k, i, j), k, i, j); }
+    private void point(int g, int i, int j, int what) { same("point", o -> o.point(g, i, j, what), m.point(g, i, j, what), g, i, j, what); }
+    private void count(int g, int what) { same("count", o -> o.count(g, what), m.count(g, what), g, what); }
+    private void volume(int g, int mm, int what) { same("volume", o -> o.volume(g, mm, what), m.volume(g, mm, what), g, mm, what); }
+    private void seen(int g, int i, int j, int i2, int j2, int eye) {
+        same("seen", o -> o.seen(g, i, j, i2, j2, eye), m.seen(g, i, j, i2, j2, eye), g, i, j, i2, j2, eye);
+    }
+    private void smooth(int g, int to, int w) { change("smooth", o -> b(o.smooth(g, to, w)), b(m.smooth(g, to, w)), g, to, w); }
+    private void difference(int g, int h, int to) { change("difference", o -> o.difference(g, h, to), m.difference(g, h, to), g, h, to); }
+
+    private void levels() {
+        m.levels();
+        change("levels", o -> {
+            o.levels();
+            return 0;
+        }, 0);
+    }
 
     private int upTo(int most) { return dice.nextInt(most + 1); }
 

@@ -1,4 +1,5 @@
 import com.sun.management.ThreadMXBean;
+import java.io.IOException;
 import java.lang.management.ManagementFactory;
 import java.lang.reflect.Array;
 import java.lang.reflect.Constructor;
@@ -44,6 +45,7 @@ public final class RulesTest {
         public boolean smooth(int,int,int)
         public int difference(int,int,int)
         """;
+    private static final Path DOCUMENT = Path.of("../shared/DOC.md");
     private static final ThreadMXBean BEAN = (ThreadMXBean) ManagementFactory.getThreadMXBean();
     private static final long THREAD = Thread.currentThread().getId();
     private static int wrong = 0;
@@ -53,7 +55,7 @@ public final class RulesTest {
         System.out.println(text);
     }
 
-    private static void face() {
+    private static void face() throws IOException {
         Class<?> c = ContourSheets.class;
         Set<String> got = new TreeSet<>();
         for (Constructor<?> m : c.getDeclaredConstructors()) if (!Modifier.isPrivate(m.getModifiers())) got.add(m.toString());
@@ -65,6 +67,7 @@ public final class RulesTest {
         }
         Set<String> want = new TreeSet<>(FACE.lines().toList());
         if (!got.equals(want)) fault("the face is " + got + ", due is " + want);
+        if (Files.exists(DOCUMENT) && !faceOfTheDocument().equals(want)) fault("the document's face is " + faceOfTheDocument());
         if (!Modifier.isFinal(c.getModifiers()) || !Modifier.isPublic(c.getModifiers())) fault("the class is not public and final");
         Set<String> names = new TreeSet<>();
         for (Method m : c.getDeclaredMethods()) if (Modifier.isPublic(m.getModifiers())) names.add(m.getName());
@@ -72,6 +75,19 @@ public final class RulesTest {
             if (!Modifier.isStatic(in.getModifiers())) fault(in + " is not static");
             for (Method m : in.getDeclaredMethods()) if (names.contains(m.getName())) fault(m + " bears a public name");
         }
+    }
+
+    /** The lines under "The public face", written as reflection writes them: types without the parameters' names. */
+    private static Set<String> faceOfTheDocument() throws IOException {
+        Set<String> face = new TreeSet<>();
+        boolean open = false;
+        for (String line : Files.readAllLines(DOCUMENT)) {
+            if (line.startsWith("## ")) open = line.equals("## The public face");
+            if (open && line.startsWith("    public ")) {
+                face.add(line.trim().replaceAll(" = .*", "").replaceAll("(int|long|boolean) \\w+(?=[,)])", "$1").replace(", ", ",").replace(";", ""));
+            }
+        }
+        return face;
     }
 
     private static void anyArguments() throws IllegalAccessException {
@@ -213,7 +229,7 @@ public final class RulesTest {
         if (found < 20) fault("only " + found + " times new was found");
     }
 
-    private static void language() throws java.io.IOException {
+    private static void language() throws IOException {
         String source = Files.readString(Path.of("src/main/java/ContourSheets.java"));
         String code = source.replaceAll("(?s)/\\*.*?\\*/", "").replaceAll("//.*", "");
         String[] never = {"\\bcatch\\b", "\\btry\\b", "\\bthrow\\b", "->", "::", "\\bfloat\\b", "\\bdouble\\b", "Exact\\b",
