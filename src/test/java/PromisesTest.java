@@ -326,9 +326,14 @@ public final class PromisesTest {
         due(12, "y at the point itself", zero.place(0, 1, 1), 0);
         ContourSheets third = sheet("03", "03");
         third.level(1);
+        third.level(2);
         third.spacing(0, 1);
         third.contour(0);
-        due(12, "a third", third.place(0, 0, 0), place(1 / 3.0));
+        due(12, "a third, rounded down", third.place(0, 0, 0), 0x3FD5555555555555L);
+        due(12, "two thirds, rounded down too", third.place(1, 0, 0), 0x3FE5555555555555L);
+        third.spacing(0, 5);
+        third.contour(0);
+        due(12, "five thirds, rounded up", third.place(0, 0, 0), 0x3FFAAAAAAAAAAAABL);
         ContourSheets tiny = sheet("00", "00");
         tiny.height(0, 0, 0, bits(-8192));
         tiny.height(0, 1, 0, bits(-8192));
